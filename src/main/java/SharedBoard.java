@@ -585,7 +585,7 @@ public final class SharedBoard {
             return (1 << (rightmost + 1)) - (1 << leftmost);
         }
 
-        /** The mask keeps the row on the board for every number. */
+        /** Here and below, the masks keep each row and column on the board for every number. */
         static int rowOf(int cell) {
             return (cell >> 4) & 15;
         }
@@ -595,15 +595,15 @@ public final class SharedBoard {
         }
 
         boolean contains(int cell) {
-            return (rows[rowOf(cell)] >> columnOf(cell) & 1) == 1;
+            return ((rows[(cell >> 4) & 15] >> (cell & 15)) & 1) == 1;
         }
 
         void include(int cell) {
-            rows[rowOf(cell)] |= 1 << columnOf(cell);
+            rows[(cell >> 4) & 15] |= 1 << (cell & 15);
         }
 
         void exclude(int cell) {
-            rows[rowOf(cell)] &= ~(1 << columnOf(cell));
+            rows[(cell >> 4) & 15] &= ~(1 << (cell & 15));
         }
 
         void addAll(CellSet added) {

@@ -39,6 +39,8 @@ public final class PromisesTest {
         promise26meanStrength();
         promise27digest();
         refusedCallsChangeNothing();
+        fullLogIsUsable();
+        rowsAreUsedAgain();
         CHECKS.end();
     }
 
@@ -104,12 +106,14 @@ public final class PromisesTest {
         board.undo(0);
         board.pass(7);
         board.lease(1, 0, 5, 999);
+        board.setMark(0);
         board.setMark(5);
         type(board, "4,");
         same("2 operations", board.clear(), 2);
         for (int what = 0; what < 10; what++) {
             same("2 count " + what, board.count(what), what == 9 ? 1 : 0);
         }
+        CHECKS.state("2 marks", () -> board.replay(0, 0));
         CHECKS.state("2 marks", () -> board.replay(5, 0));
         CHECKS.state("2 redo", () -> board.redo(0));
         same("2 holder", board.holder(0), -1);
@@ -347,6 +351,10 @@ public final class PromisesTest {
         same("9 a diagonal stops it", walls.fill(1, 0, 4, 0), 6);
         same("9 the same color by neighbors", walls.fill(1, 0, 5, 3), 1);
         same("9 outside", walls.fill(1, 0, 6, 255), 256 - 10);
+        SharedBoard halves = new SharedBoard();
+        stroke(halves, "0,8-15,8", 0, 0, 1);
+        same("9 columns do not run on below", halves.fill(0, 0, 2, 255), 7 * 16);
+        same("9 nor above", halves.fill(0, 0, 3, 0), 8 * 16);
         SharedBoard low = new SharedBoard();
         stroke(low, "0,0-15,0", 0, 2, 3);
         same("9 below a layer", low.fill(0, 0, 9, 5), 16);
@@ -423,6 +431,12 @@ public final class PromisesTest {
         same("11 undo passes over them", board.undo(0), 6);
         same("11 undo passes over them", board.undo(0), 1);
         same("11 redo", board.redo(0), 1);
+        SharedBoard first = new SharedBoard();
+        stroke(first, "0,0", 0, 0, 1);
+        first.undo(0);
+        stroke(first, "1,0", 0, 0, 1);
+        CHECKS.state("11 the first one is forgotten, too", () -> first.redo(0));
+        same("11 of two", first.user(0, 2), 0);
     }
 
     private static void promise12lease() {
@@ -472,6 +486,9 @@ public final class PromisesTest {
         CHECKS.index("13 user", () -> board.release(5));
         CHECKS.index("13 user", () -> board.release(-1));
         same("13 none", board.release(0), 0);
+        board.lease(0, 0, 255, 9);
+        same("13 at tick 0", board.release(0), 1);
+        same("13 ended", board.count(5), 0);
         board.lease(0, 0, 0, 1);
         board.lease(0, 1, 2, 9);
         board.lease(1, 3, 3, 9);
@@ -613,6 +630,13 @@ public final class PromisesTest {
         faded.pass(3);
         faded.rewind(0);
         same("18 the tick stays", faded.difference(0), 1);
+        SharedBoard first = new SharedBoard();
+        first.setMark(5);
+        stroke(first, "0,0", 0, 0, 1);
+        first.setMark(0);
+        same("18 to the blank board", first.rewind(5), 1);
+        CHECKS.state("18 the first mark", () -> first.difference(0));
+        same("18 blank", first.color(0), 0);
     }
 
     private static void promise19color() {
@@ -810,6 +834,12 @@ public final class PromisesTest {
         SharedBoard other = new SharedBoard();
         stroke(other, "4,0-0,4", 0, 0, 1);
         same("23 the other diagonal", other.operation(0, 8), 1);
+        String[] bent = {"0,2-2,4-4,2", "4,1-2,4-0,2", "0,0-4,4-0,8", "8,0-4,4-8,8", "0,15-7,8-14,15"};
+        for (String path : bent) {
+            SharedBoard board2 = new SharedBoard();
+            stroke(board2, path, 0, 0, 1);
+            same("23 one piece " + path, board2.operation(0, 8), 1);
+        }
     }
 
     private static void promise24ifSwitched() {
@@ -862,6 +892,9 @@ public final class PromisesTest {
             }
         }
         board.undo(0);
+        board.undo(0);
+        same("25 all can be redone", board.user(0, 2), 3);
+        board.redo(0);
         same("25 both can be redone", board.user(0, 2), 2);
         board.redo(0);
         same("25 one can be redone", board.user(0, 2), 1);
@@ -927,6 +960,7 @@ public final class PromisesTest {
         long empty = board.digest();
         board.setMark(3);
         stroke(board, "0,0-5,5", 0, 0, 3);
+        board.setMark(0);
         fading(board, "5,0-0,5", 1, 4, 9);
         board.pass(2);
         board.setMark(1);
@@ -935,8 +969,8 @@ public final class PromisesTest {
         board.lease(3, 0, 40, 7);
         board.undo(1);
         type(board, "1,~!");
-        same("27 all kinds", board.digest(), dueDigest(board, "1,~!", 1, 3));
-        same("27 twice", board.digest(), dueDigest(board, "1,~!", 1, 3));
+        same("27 all kinds", board.digest(), dueDigest(board, "1,~!", 0, 1, 3));
+        same("27 twice", board.digest(), dueDigest(board, "1,~!", 0, 1, 3));
         board.clear();
         same("27 with text only", board.digest(), dueDigest(board, "1,~!"));
         board.clearBuffer();
@@ -966,5 +1000,69 @@ public final class PromisesTest {
         CHECKS.argument("none append", () -> board.append(10));
         same("refused calls change nothing", board.digest(), before);
         same("redo is still there", board.redo(0), 0);
+    }
+
+    private static void fullLogIsUsable() {
+        SharedBoard board = full();
+        same("full count", board.count(1), 60);
+        same("full mark", board.setMark(0), 60);
+        same("full undo", board.undo(4), 59);
+        same("full undo", board.undo(0), 55);
+        same("full switch", board.ifSwitched(59), board.difference(0));
+        same("full redo", board.redo(4), 59);
+        same("full redoable", board.user(0, 2), 1);
+        same("full mark", board.setMark(1), 60);
+        same("full rewind", board.rewind(0), 0);
+        same("full active", board.count(2), 60);
+        same("full picture", board.difference(0), 0);
+        CHECKS.state("full redo is forgotten", () -> board.redo(0));
+        same("full later", board.colorLater(0, 1000), board.color(0));
+        CHECKS.index("full last number", () -> board.operation(60, 0));
+        same("full last number", board.operation(59, 1), 4);
+        for (int user = 0; user < 5; user++) {
+            for (int i = 0; i < 12; i++) {
+                board.undo(user);
+            }
+            same("full all undone", board.user(user, 1), 0);
+            same("full all undone", board.user(user, 2), 12);
+        }
+        same("full blank", board.count(3), 0);
+        CHECKS.state("full undone ones stay", () -> board.fill(0, 0, 1, 0));
+        for (int i = 0; i < 12; i++) {
+            same("full redo", board.redo(3), 5 * i + 3);
+        }
+    }
+
+    /** What an operation, a lease or a mark of earlier had must not come back in a later one. */
+    private static void rowsAreUsedAgain() {
+        SharedBoard board = new SharedBoard();
+        fading(board, "0,0-9,9", 0, 3, 5);
+        erase(board, "3,3", 0, 2, 1);
+        board.undo(0);
+        board.undo(0);
+        board.lease(1, 0, 255, 999);
+        board.setMark(0);
+        board.clear();
+        same("again one cell", stroke(board, "4,4", 0, 2, 6), 1);
+        showsOnly("again", board, 6, 68);
+        CHECKS.state("again no redo", () -> board.redo(0));
+        same("again a fill", board.fill(1, 0, 2, 0), 255);
+        same("again hidden", board.count(8), 0);
+        board.clear();
+        fading(board, "0,0", 0, 3, 5);
+        board.clear();
+        same("again a fill without fading", board.fill(0, 0, 2, 0), 256);
+        board.pass(900);
+        same("again it stays", board.count(3), 256);
+        same("again strength", board.operation(0, 10), 100);
+        same("again a small lease", board.lease(0, 7, 7, 3), 1);
+        same("again its cells", board.count(6), 1);
+        same("again a small fill", stroke(board, "1,1", 2, 2, 9), 1);
+        board.setMark(2);
+        board.undo(2);
+        stroke(board, "2,2", 2, 2, 9);
+        board.rewind(2);
+        same("again a region", board.fill(3, 1, 8, 17), 1);
+        same("again its number", board.operation(2, 6), 1);
     }
 }
