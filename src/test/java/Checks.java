@@ -39,7 +39,7 @@ final class Checks {
     }
 
     /** The class must be the very one: one below it is thrown by the machine. */
-    private void refused(String what, Class<?> due, Call call) {
+    void refused(String what, Class<?> due, Call call) {
         made++;
         Class<?> got = null;
         try {
@@ -59,7 +59,11 @@ final class Checks {
         }
     }
 
-    private void report(String line) {
+    int made() {
+        return made;
+    }
+
+    void report(String line) {
         wrong++;
         System.out.println(name + ": " + line);
     }

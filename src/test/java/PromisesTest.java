@@ -44,50 +44,20 @@ public final class PromisesTest {
         CHECKS.end();
     }
 
-    private static SharedBoard type(SharedBoard board, String text) {
-        for (int i = 0; i < text.length(); i++) {
-            board.append(text.charAt(i));
-        }
-        return board;
-    }
-
-    private static SharedBoard typed(String text) {
-        return type(new SharedBoard(), text);
-    }
-
-    private static int stroke(SharedBoard board, String path, int user, int layer, int color) {
-        return type(board, path).stroke(user, layer, color, 0);
-    }
-
-    private static int fading(SharedBoard board, String path, int user, int color, int fade) {
-        return type(board, path).stroke(user, 0, color, fade);
-    }
-
-    private static int erase(SharedBoard board, String path, int user, int layer, int kind) {
-        return type(board, path).erase(user, layer, kind);
-    }
-
-    private static SharedBoard full() {
-        SharedBoard board = new SharedBoard();
-        for (int i = 0; i < 60; i++) {
-            board.fill(i % 5, i % 3, 1 + i % 9, i);
-        }
-        return board;
-    }
-
     private static void same(String what, long got, long due) {
         CHECKS.same(what, got, due);
     }
 
     private static void promise01newObject() {
-        SharedBoard board = new SharedBoard();
+        Board board = new Board();
         for (int what = 0; what < 10; what++) {
             same("1 count " + what, board.count(what), what == 9 ? 1 : 0);
         }
         for (int cell = 0; cell < 256; cell++) {
-            same("1 color", board.color(cell), 0);
-            same("1 top", board.top(cell), SharedBoard.NONE);
-            same("1 holder", board.holder(cell), SharedBoard.NONE);
+            Board other = new Board();
+            same("1 color", other.color(cell), 0);
+            same("1 top", other.top(cell), SharedBoard.NONE);
+            same("1 holder", other.holder(cell), SharedBoard.NONE);
         }
         for (int mark = 0; mark < 6; mark++) {
             int asked = mark;
@@ -99,16 +69,16 @@ public final class PromisesTest {
     }
 
     private static void promise02clear() {
-        SharedBoard board = new SharedBoard();
+        Board board = new Board();
         same("2 of a new board", board.clear(), 0);
-        stroke(board, "1,1", 0, 0, 3);
-        stroke(board, "2,1", 0, 0, 3);
+        board.draw("1,1", 0, 0, 3);
+        board.draw("2,1", 0, 0, 3);
         board.undo(0);
         board.pass(7);
         board.lease(1, 0, 5, 999);
         board.setMark(0);
         board.setMark(5);
-        type(board, "4,");
+        board.type("4,");
         same("2 operations", board.clear(), 2);
         for (int what = 0; what < 10; what++) {
             same("2 count " + what, board.count(what), what == 9 ? 1 : 0);
@@ -121,14 +91,14 @@ public final class PromisesTest {
         CHECKS.index("2 log", () -> board.operation(0, 0));
         same("2 buffer stays", board.clearBuffer(), 2);
         same("2 again", board.clear(), 0);
-        same("2 of a full log", full().clear(), 60);
+        same("2 of a full log", Board.full().clear(), 60);
         // A lease of the time before must not come back while the tick runs up again.
         board.pass(3);
         same("2 leases stay ended", board.count(5), 0);
     }
 
     private static void promise03pass() {
-        SharedBoard board = new SharedBoard();
+        Board board = new Board();
         for (int wrong : new int[] {0, -1, 1001, LOW, HIGH}) {
             CHECKS.argument("3 " + wrong, () -> board.pass(wrong));
         }
@@ -146,7 +116,7 @@ public final class PromisesTest {
     }
 
     private static void promise04append() {
-        SharedBoard board = new SharedBoard();
+        Board board = new Board();
         for (int wrong : new int[] {32, 127, 0, -48, LOW, HIGH}) {
             CHECKS.argument("4 " + wrong, () -> board.append(wrong));
         }
@@ -159,7 +129,7 @@ public final class PromisesTest {
     }
 
     private static void promise05clearBuffer() {
-        SharedBoard board = typed("3,4-");
+        Board board = Board.typed("3,4-");
         same("5 length", board.clearBuffer(), 4);
         same("5 empty", board.clearBuffer(), 0);
         same("5 begins again", board.append('7'), 1);
@@ -170,24 +140,24 @@ public final class PromisesTest {
         String[] right = {"", "0", "1", "9", "10", "15", "15,", "15,1", "15,15", "0,0-", "0,0-1", "1,1-2,2-3,3-4,4-5,5-6,6",
             "15,15-15,15-15,15-15,15-15,15-15,15", "0,9-9,0"};
         for (String text : right) {
-            same("6 no error in " + text, typed(text).firstError(), text.length());
+            same("6 no error in " + text, Board.typed(text).firstError(), text.length());
         }
         String[] wrong = {",", "-", "x", "!", "00", "01", "16", "19", "20", "99", "1-", "0-", "100", "150", "0,,", "0,-",
             "0,x", "0,00", "0,16", "0,20", "0,150", "0,0,", "0,0x", "0,0--", "0,0-,", "0,0-1-", "0,0-16",
             "1,1-2,2-3,3-4,4-5,5-6,6-", "1,1-2,2-3,3-4,4-5,5-6,66", "0.", "0/", "0:", "1:", "1/"};
         for (String text : wrong) {
-            same("6 error in " + text, typed(text).firstError(), text.length() - 1);
-            same("6 first error in " + text, typed(text + "0,0").firstError(), text.length() - 1);
+            same("6 error in " + text, Board.typed(text).firstError(), text.length() - 1);
+            same("6 first error in " + text, Board.typed(text + "0,0").firstError(), text.length() - 1);
         }
-        SharedBoard board = typed("1,16");
+        Board board = Board.typed("1,16");
         same("6 asked", board.firstError(), 3);
         same("6 asked again", board.firstError(), 3);
         same("6 changes nothing", board.clearBuffer(), 4);
-        same("6 long text", typed("0123456789012345678901234567890123456789").firstError(), 1);
+        same("6 long text", Board.typed("0123456789012345678901234567890123456789").firstError(), 1);
     }
 
     private static void promise07stroke() {
-        SharedBoard board = typed("3,2");
+        Board board = Board.typed("3,2");
         CHECKS.index("7 user -1", () -> board.stroke(-1, 0, 1, 0));
         CHECKS.index("7 user 5", () -> board.stroke(5, 0, 1, 0));
         CHECKS.index("7 layer -1", () -> board.stroke(0, -1, 1, 0));
@@ -203,28 +173,24 @@ public final class PromisesTest {
         same("7 number", board.top(35), 0);
         same("7 buffer is empty", board.clearBuffer(), 0);
         for (String text : new String[] {"", "1", "1,", "1,1-", "1,1-2", "1,1-2,", "16,1", "1,1x"}) {
-            SharedBoard other = typed(text);
+            Board other = Board.typed(text);
             CHECKS.state("7 text " + text, () -> other.stroke(0, 0, 1, 0));
             CHECKS.argument("7 color before text", () -> other.stroke(0, 0, 0, 0));
             same("7 buffer stays", other.clearBuffer(), text.length());
             same("7 nothing added", other.count(1), 0);
         }
-        SharedBoard full = type(full(), "1,1");
+        Board full = Board.full().type("1,1");
         CHECKS.state("7 full", () -> full.stroke(0, 0, 1, 0));
         CHECKS.argument("7 full, order", () -> full.stroke(0, 0, 1, 1000));
         same("7 full, buffer stays", full.clearBuffer(), 3);
     }
 
-    private static void showsOnly(String what, SharedBoard board, int color, int... cells) {
-        for (int cell = 0; cell < 256; cell++) {
-            int due = 0;
-            for (int shown : cells) {
-                if (shown == cell) {
-                    due = color;
-                }
-            }
-            same(what + " cell " + cell, board.color(cell), due);
+    /** These cells, each named once, show the color, and all others are blank. */
+    private static void showsOnly(String what, Board board, int color, int... cells) {
+        for (int cell : cells) {
+            same(what + " cell " + cell, board.color(cell), color);
         }
+        same(what + " cells", board.count(3), cells.length);
     }
 
     private static void promise07lines() {
@@ -234,32 +200,32 @@ public final class PromisesTest {
             {17, 34, 51}, {2, 17, 16}, {0, 1, 18, 19, 20}, {20, 19, 2, 1, 0}, {0, 1, 18, 19, 20, 21, 38, 39},
             {255, 239, 223}, {6, 21, 36, 35, 50, 65}};
         for (int i = 0; i < paths.length; i++) {
-            SharedBoard board = new SharedBoard();
-            same("7 size of " + paths[i], stroke(board, paths[i], 1, 1, 6), cells[i].length);
+            Board board = new Board();
+            same("7 size of " + paths[i], board.draw(paths[i], 1, 1, 6), cells[i].length);
             showsOnly("7 line " + paths[i], board, 6, cells[i]);
         }
-        SharedBoard six = new SharedBoard();
-        same("7 six points", stroke(six, "0,0-15,0-15,15-0,15-0,1-14,1", 0, 0, 1), 16 + 15 + 15 + 14 + 14);
+        Board six = new Board();
+        same("7 six points", six.draw("0,0-15,0-15,15-0,15-0,1-14,1", 0, 0, 1), 16 + 15 + 15 + 14 + 14);
     }
 
     private static void promise07closedCells() {
-        SharedBoard board = new SharedBoard();
+        Board board = new Board();
         board.lease(0, 2, 3, 5);
-        same("7 closed cells", stroke(board, "0,0-5,0", 1, 0, 4), 4);
+        same("7 closed cells", board.draw("0,0-5,0", 1, 0, 4), 4);
         showsOnly("7 around the lease", board, 4, 0, 1, 4, 5);
         board.release(0);
         showsOnly("7 after the lease", board, 4, 0, 1, 4, 5);
         same("7 number of cells", board.operation(0, 6), 4);
         board.lease(0, 0, 255, 5);
-        same("7 owner draws", stroke(board, "2,0", 0, 0, 4), 1);
-        same("7 nothing left of it", stroke(board, "9,9", 1, 0, 4), 0);
+        same("7 owner draws", board.draw("2,0", 0, 0, 4), 1);
+        same("7 nothing left of it", board.draw("9,9", 1, 0, 4), 0);
         same("7 but it is added", board.count(1), 3);
         board.pass(5);
-        same("7 the lease has ended", stroke(board, "9,9", 1, 0, 4), 1);
+        same("7 the lease has ended", board.draw("9,9", 1, 0, 4), 1);
     }
 
     private static void promise08erase() {
-        SharedBoard board = typed("0,0");
+        Board board = Board.typed("0,0");
         CHECKS.index("8 user", () -> board.erase(5, 0, 0));
         CHECKS.index("8 user", () -> board.erase(-1, 0, 3));
         CHECKS.index("8 layer", () -> board.erase(0, 3, 0));
@@ -271,69 +237,69 @@ public final class PromisesTest {
         same("8 buffer is empty", board.clearBuffer(), 0);
         CHECKS.state("8 empty text", () -> board.erase(0, 0, 0));
         CHECKS.argument("8 kind before text", () -> board.erase(0, 0, 3));
-        SharedBoard full = type(full(), "1,1");
+        Board full = Board.full().type("1,1");
         CHECKS.state("8 full", () -> full.erase(0, 0, 1));
-        SharedBoard covered = new SharedBoard();
-        stroke(covered, "0,0-3,0", 1, 0, 7);
-        stroke(covered, "0,0-1,0", 0, 1, 7);
-        stroke(covered, "2,0", 0, 1, 8);
+        Board covered = new Board();
+        covered.draw("0,0-3,0", 1, 0, 7);
+        covered.draw("0,0-1,0", 0, 1, 7);
+        covered.draw("2,0", 0, 1, 8);
         // Below the cells 0 and 1 the same color comes to light, below the cell 2 another one.
-        same("8 other colors only", erase(covered, "0,0-2,0", 0, 1, 2), 1);
+        same("8 other colors only", covered.erase("0,0-2,0", 0, 1, 2), 1);
         same("8 undone", covered.undo(0), 3);
-        same("8 covered", erase(covered, "0,0", 1, 0, 0), 0);
+        same("8 covered", covered.erase("0,0", 1, 0, 0), 0);
         same("8 but cut", covered.operation(0, 7), 3);
-        SharedBoard late = new SharedBoard();
-        fading(late, "4,4", 0, 5, 3);
+        Board late = new Board();
+        late.drawFading("4,4", 0, 5, 3);
         late.pass(3);
-        same("8 vanished strokes", erase(late, "4,4", 0, 0, 0), 0);
+        same("8 vanished strokes", late.erase("4,4", 0, 0, 0), 0);
         same("8 take part", late.operation(0, 7), 0);
     }
 
     private static void promise08kinds() {
         int[] due = {2, 6, 2};
         for (int kind = 0; kind < 3; kind++) {
-            SharedBoard board = new SharedBoard();
-            stroke(board, "0,0-5,0", 0, 0, 3);
-            same("8 kind " + kind, erase(board, "1,0-2,0", 0, 0, kind), due[kind]);
+            Board board = new Board();
+            board.draw("0,0-5,0", 0, 0, 3);
+            same("8 kind " + kind, board.erase("1,0-2,0", 0, 0, kind), due[kind]);
             same("8 left " + kind, board.operation(0, 7), 6 - due[kind]);
         }
-        SharedBoard other = new SharedBoard();
-        stroke(other, "0,0-5,0", 0, 0, 3);
-        same("8 own of another", erase(other, "0,0-5,0", 1, 2, 2), 0);
-        same("8 cut by another", erase(other, "0,0", 1, 2, 0), 1);
-        same("8 a cell that is gone", erase(other, "0,0", 1, 2, 1), 0);
-        same("8 one that is there", erase(other, "0,0-1,0", 1, 2, 1), 5);
-        SharedBoard later = new SharedBoard();
-        erase(later, "0,0-5,0", 0, 2, 1);
-        stroke(later, "0,0-5,0", 0, 0, 3);
+        Board other = new Board();
+        other.draw("0,0-5,0", 0, 0, 3);
+        same("8 own of another", other.erase("0,0-5,0", 1, 2, 2), 0);
+        same("8 cut by another", other.erase("0,0", 1, 2, 0), 1);
+        same("8 a cell that is gone", other.erase("0,0", 1, 2, 1), 0);
+        same("8 one that is there", other.erase("0,0-1,0", 1, 2, 1), 5);
+        Board later = new Board();
+        later.erase("0,0-5,0", 0, 2, 1);
+        later.draw("0,0-5,0", 0, 0, 3);
         same("8 only before it", later.count(3), 6);
-        SharedBoard leased = new SharedBoard();
-        stroke(leased, "0,0-5,0", 0, 0, 3);
+        Board leased = new Board();
+        leased.draw("0,0-5,0", 0, 0, 3);
         leased.lease(0, 0, 1, 9);
-        same("8 closed cells", erase(leased, "0,0-3,0", 1, 0, 0), 2);
+        same("8 closed cells", leased.erase("0,0-3,0", 1, 0, 0), 2);
         same("8 its cells", leased.operation(1, 6), 2);
-        same("8 closed to removing", erase(leased, "0,0-1,0", 1, 0, 1), 0);
-        SharedBoard many = new SharedBoard();
-        stroke(many, "0,0-5,0", 0, 0, 3);
-        stroke(many, "0,0-0,5", 1, 0, 4);
-        stroke(many, "9,9", 1, 0, 4);
-        same("8 removes each", erase(many, "0,0", 3, 0, 1), 11);
+        same("8 closed to removing", leased.erase("0,0-1,0", 1, 0, 1), 0);
+        Board many = new Board();
+        many.draw("0,0-5,0", 0, 0, 3);
+        many.draw("0,0-0,5", 1, 0, 4);
+        many.draw("9,9", 1, 0, 4);
+        same("8 removes each", many.erase("0,0", 3, 0, 1), 11);
         same("8 undone erasure", many.undo(3), 3);
         same("8 all is there", many.count(3), 12);
     }
 
     private static void promise08layers() {
         for (int layer = 0; layer < 3; layer++) {
-            SharedBoard board = new SharedBoard();
+            Board board = new Board();
             for (int drawn = 0; drawn < 3; drawn++) {
-                stroke(board, drawn + "," + drawn, 0, drawn, 5);
+                board.draw(drawn + "," + drawn, 0, drawn, 5);
             }
-            same("8 layers up to " + layer, erase(board, "0,0-2,2", 0, layer, 0), layer + 1);
+            same("8 layers up to " + layer, board.erase("0,0-2,2", 0, layer, 0), layer + 1);
         }
     }
 
     private static void promise09fill() {
-        SharedBoard board = new SharedBoard();
+        Board board = new Board();
         CHECKS.index("9 user", () -> board.fill(-1, 0, 1, 0));
         CHECKS.index("9 user", () -> board.fill(5, 0, 0, 0));
         CHECKS.index("9 layer", () -> board.fill(0, -1, 1, 0));
@@ -341,50 +307,50 @@ public final class PromisesTest {
         CHECKS.index("9 cell", () -> board.fill(0, 0, 0, -1));
         CHECKS.argument("9 color", () -> board.fill(0, 0, 0, 0));
         CHECKS.argument("9 color", () -> board.fill(0, 0, 10, 0));
-        type(board, "1,1-");
+        board.type("1,1-");
         same("9 whole board", board.fill(0, 0, 2, 77), 256);
         same("9 buffer stays", board.clearBuffer(), 4);
         same("9 no fading", board.operation(0, 10), 100);
         same("9 sort", board.operation(0, 0), 1);
-        SharedBoard walls = new SharedBoard();
-        stroke(walls, "0,3-3,0", 0, 0, 1);
+        Board walls = new Board();
+        walls.draw("0,3-3,0", 0, 0, 1);
         same("9 a diagonal stops it", walls.fill(1, 0, 4, 0), 6);
         same("9 the same color by neighbors", walls.fill(1, 0, 5, 3), 1);
         same("9 outside", walls.fill(1, 0, 6, 255), 256 - 10);
-        SharedBoard halves = new SharedBoard();
-        stroke(halves, "0,8-15,8", 0, 0, 1);
+        Board halves = new Board();
+        halves.draw("0,8-15,8", 0, 0, 1);
         same("9 columns do not run on below", halves.fill(0, 0, 2, 255), 7 * 16);
         same("9 nor above", halves.fill(0, 0, 3, 0), 8 * 16);
-        SharedBoard low = new SharedBoard();
-        stroke(low, "0,0-15,0", 0, 2, 3);
+        Board low = new Board();
+        low.draw("0,0-15,0", 0, 2, 3);
         same("9 below a layer", low.fill(0, 0, 9, 5), 16);
         same("9 is covered", low.color(5), 3);
         same("9 hidden", low.count(8), 1);
-        SharedBoard leased = new SharedBoard();
+        Board leased = new Board();
         leased.lease(2, 5, 245, 9);
         same("9 closed cells do not stop it", leased.fill(0, 0, 1, 0), 256 - 16);
         same("9 at a closed cell", leased.fill(1, 0, 2, 5), 0);
         same("9 by the holder", leased.fill(2, 0, 3, 21), 16);
-        SharedBoard faded = new SharedBoard();
-        fading(faded, "0,1-15,1", 0, 4, 5);
+        Board faded = new Board();
+        faded.drawFading("0,1-15,1", 0, 4, 5);
         same("9 a stroke stops it", faded.fill(0, 0, 1, 0), 16);
         faded.pass(5);
         same("9 not when vanished", faded.fill(0, 0, 2, 255), 256 - 16);
-        SharedBoard full = full();
+        Board full = Board.full();
         CHECKS.state("9 full", () -> full.fill(0, 0, 1, 0));
         CHECKS.argument("9 full, order", () -> full.fill(0, 0, 10, 0));
         CHECKS.index("9 full, order", () -> full.fill(0, 0, 10, 256));
     }
 
     private static void promise10undo() {
-        SharedBoard board = new SharedBoard();
+        Board board = new Board();
         CHECKS.index("10 user", () -> board.undo(5));
         CHECKS.index("10 user", () -> board.undo(-1));
         CHECKS.state("10 nothing", () -> board.undo(0));
-        stroke(board, "0,0", 0, 0, 1);
-        stroke(board, "1,0", 1, 0, 1);
-        stroke(board, "2,0", 0, 0, 1);
-        erase(board, "0,0-2,0", 1, 0, 1);
+        board.draw("0,0", 0, 0, 1);
+        board.draw("1,0", 1, 0, 1);
+        board.draw("2,0", 0, 0, 1);
+        board.erase("0,0-2,0", 1, 0, 1);
         same("10 all erased", board.count(3), 0);
         same("10 latest of the user", board.undo(0), 2);
         same("10 an erasure", board.undo(1), 3);
@@ -399,14 +365,14 @@ public final class PromisesTest {
     }
 
     private static void promise11redo() {
-        SharedBoard board = new SharedBoard();
+        Board board = new Board();
         CHECKS.index("11 user", () -> board.redo(5));
         CHECKS.index("11 user", () -> board.redo(-1));
         CHECKS.state("11 nothing", () -> board.redo(0));
         for (int i = 0; i < 3; i++) {
-            stroke(board, i + ",0", 0, 0, 1);
+            board.draw(i + ",0", 0, 0, 1);
         }
-        stroke(board, "9,0", 1, 0, 1);
+        board.draw("9,0", 1, 0, 1);
         CHECKS.state("11 nothing undone", () -> board.redo(0));
         board.undo(0);
         board.undo(0);
@@ -418,7 +384,7 @@ public final class PromisesTest {
         same("11 first", board.redo(0), 0);
         same("11 second", board.redo(0), 1);
         board.undo(1);
-        stroke(board, "0,5", 0, 0, 1);
+        board.draw("0,5", 0, 0, 1);
         CHECKS.state("11 forgotten by adding", () -> board.redo(0));
         same("11 stays in the log", board.operation(2, 5), 0);
         same("11 another user's stays", board.redo(1), 3);
@@ -426,21 +392,21 @@ public final class PromisesTest {
         board.fill(1, 0, 2, 255);
         CHECKS.state("11 forgotten by a fill", () -> board.redo(1));
         board.undo(0);
-        erase(board, "8,8", 0, 0, 0);
+        board.erase("8,8", 0, 0, 0);
         CHECKS.state("11 forgotten by an erasure", () -> board.redo(0));
         same("11 undo passes over them", board.undo(0), 6);
         same("11 undo passes over them", board.undo(0), 1);
         same("11 redo", board.redo(0), 1);
-        SharedBoard first = new SharedBoard();
-        stroke(first, "0,0", 0, 0, 1);
+        Board first = new Board();
+        first.draw("0,0", 0, 0, 1);
         first.undo(0);
-        stroke(first, "1,0", 0, 0, 1);
+        first.draw("1,0", 0, 0, 1);
         CHECKS.state("11 the first one is forgotten, too", () -> first.redo(0));
         same("11 of two", first.user(0, 2), 0);
     }
 
     private static void promise12lease() {
-        SharedBoard board = new SharedBoard();
+        Board board = new Board();
         CHECKS.index("12 user", () -> board.lease(5, 0, 0, 1));
         CHECKS.index("12 user", () -> board.lease(-1, 0, 0, 0));
         CHECKS.index("12 first", () -> board.lease(0, -1, 0, 1));
@@ -469,7 +435,7 @@ public final class PromisesTest {
         same("12 longer one", board.count(6), 1);
         same("12 open again", board.lease(2, 65, 65, 1), 2);
         same("12 still closed", board.lease(2, 65, 35, 1), -1);
-        SharedBoard many = new SharedBoard();
+        Board many = new Board();
         for (int i = 0; i < 6; i++) {
             same("12 six", many.lease(i % 5, i, i, i == 3 ? 1 : 999), i + 1);
         }
@@ -478,11 +444,11 @@ public final class PromisesTest {
         many.pass(1);
         same("12 room again", many.lease(0, 255, 255, 1), 6);
         same("12 corner", many.holder(255), 0);
-        same("12 whole board", new SharedBoard().lease(4, 15, 240, 999), 1);
+        same("12 whole board", new Board().lease(4, 15, 240, 999), 1);
     }
 
     private static void promise13release() {
-        SharedBoard board = new SharedBoard();
+        Board board = new Board();
         CHECKS.index("13 user", () -> board.release(5));
         CHECKS.index("13 user", () -> board.release(-1));
         same("13 none", board.release(0), 0);
@@ -503,7 +469,7 @@ public final class PromisesTest {
     }
 
     private static void promise14holder() {
-        SharedBoard board = new SharedBoard();
+        Board board = new Board();
         CHECKS.index("14 cell", () -> board.holder(-1));
         CHECKS.index("14 cell", () -> board.holder(256));
         board.lease(3, 0, 0, 4);
@@ -519,15 +485,15 @@ public final class PromisesTest {
     }
 
     private static void promise15setMark() {
-        SharedBoard board = new SharedBoard();
+        Board board = new Board();
         CHECKS.index("15 mark", () -> board.setMark(-1));
         CHECKS.index("15 mark", () -> board.setMark(6));
         same("15 empty log", board.setMark(0), 0);
-        stroke(board, "0,0", 0, 0, 1);
+        board.draw("0,0", 0, 0, 1);
         board.undo(0);
         same("15 undone ones count", board.setMark(5), 1);
         same("15 two set", board.count(7), 2);
-        stroke(board, "0,0", 0, 0, 1);
+        board.draw("0,0", 0, 0, 1);
         same("15 in place", board.setMark(0), 2);
         same("15 still two", board.count(7), 2);
         same("15 the new picture", board.replay(0, 0), 1);
@@ -535,18 +501,18 @@ public final class PromisesTest {
     }
 
     private static void promise16replay() {
-        SharedBoard board = new SharedBoard();
+        Board board = new Board();
         CHECKS.index("16 mark", () -> board.replay(6, 0));
         CHECKS.index("16 mark", () -> board.replay(-1, 0));
         CHECKS.index("16 cell", () -> board.replay(0, 256));
         CHECKS.index("16 cell", () -> board.replay(0, -1));
         CHECKS.state("16 not set", () -> board.replay(0, 0));
-        fading(board, "0,0-1,0", 0, 3, 4);
-        stroke(board, "1,0-2,0", 1, 1, 5);
+        board.drawFading("0,0-1,0", 0, 3, 4);
+        board.draw("1,0-2,0", 1, 1, 5);
         board.setMark(2);
         board.pass(4);
         board.undo(1);
-        erase(board, "0,0", 0, 2, 1);
+        board.erase("0,0", 0, 2, 1);
         board.fill(2, 2, 9, 255);
         same("16 present", board.color(0), 9);
         same("16 faded since", board.replay(2, 0), 3);
@@ -556,16 +522,16 @@ public final class PromisesTest {
     }
 
     private static void promise17difference() {
-        SharedBoard board = new SharedBoard();
+        Board board = new Board();
         CHECKS.index("17 mark", () -> board.difference(6));
         CHECKS.index("17 mark", () -> board.difference(-1));
         CHECKS.state("17 not set", () -> board.difference(3));
         board.setMark(3);
         same("17 none", board.difference(3), 0);
-        fading(board, "0,0-4,0", 0, 3, 4);
+        board.drawFading("0,0-4,0", 0, 3, 4);
         same("17 drawn", board.difference(3), 5);
         board.setMark(4);
-        stroke(board, "3,0-6,0", 0, 0, 3);
+        board.draw("3,0-6,0", 0, 0, 3);
         same("17 the same color does not count", board.difference(4), 2);
         board.pass(4);
         same("17 faded", board.difference(4), 5);
@@ -573,25 +539,25 @@ public final class PromisesTest {
     }
 
     private static void promise18rewind() {
-        SharedBoard board = new SharedBoard();
+        Board board = new Board();
         CHECKS.index("18 mark", () -> board.rewind(6));
         CHECKS.index("18 mark", () -> board.rewind(-1));
         CHECKS.state("18 not set", () -> board.rewind(1));
-        stroke(board, "0,0", 0, 0, 1);
+        board.draw("0,0", 0, 0, 1);
         board.setMark(0);
-        stroke(board, "1,0", 1, 0, 2);
-        stroke(board, "2,0", 0, 0, 3);
+        board.draw("1,0", 1, 0, 2);
+        board.draw("2,0", 0, 0, 3);
         board.undo(0);
         board.setMark(1);
         board.setMark(4);
-        stroke(board, "3,0", 2, 0, 4);
+        board.draw("3,0", 2, 0, 4);
         board.setMark(2);
         board.redo(0);
         board.undo(1);
         board.setMark(3);
         board.lease(4, 200, 201, 50);
         board.pass(9);
-        type(board, "4,");
+        board.type("4,");
         same("18 removed", board.rewind(1), 1);
         same("18 operations", board.count(1), 3);
         same("18 active again", board.operation(1, 5), 1);
@@ -609,12 +575,12 @@ public final class PromisesTest {
         CHECKS.state("18 later marks", () -> board.rewind(3));
         CHECKS.index("18 removed for good", () -> board.operation(3, 0));
         same("18 again", board.rewind(1), 0);
-        stroke(board, "9,9", 3, 0, 8);
+        board.draw("9,9", 3, 0, 8);
         same("18 new number", board.top(153), 3);
         same("18 further back", board.rewind(0), 3);
         same("18 one mark", board.count(7), 1);
-        SharedBoard undone = new SharedBoard();
-        stroke(undone, "0,0", 0, 0, 1);
+        Board undone = new Board();
+        undone.draw("0,0", 0, 0, 1);
         undone.setMark(0);
         undone.undo(0);
         same("18 none removed", undone.rewind(0), 0);
@@ -624,15 +590,15 @@ public final class PromisesTest {
         undone.redo(0);
         undone.rewind(1);
         CHECKS.state("18 undone at the mark", () -> undone.redo(0));
-        SharedBoard faded = new SharedBoard();
-        fading(faded, "0,0", 0, 1, 3);
+        Board faded = new Board();
+        faded.drawFading("0,0", 0, 1, 3);
         faded.setMark(0);
         faded.pass(3);
         faded.rewind(0);
         same("18 the tick stays", faded.difference(0), 1);
-        SharedBoard first = new SharedBoard();
+        Board first = new Board();
         first.setMark(5);
-        stroke(first, "0,0", 0, 0, 1);
+        first.draw("0,0", 0, 0, 1);
         first.setMark(0);
         same("18 to the blank board", first.rewind(5), 1);
         CHECKS.state("18 the first mark", () -> first.difference(0));
@@ -640,17 +606,17 @@ public final class PromisesTest {
     }
 
     private static void promise19color() {
-        SharedBoard board = new SharedBoard();
+        Board board = new Board();
         CHECKS.index("19 cell", () -> board.color(-1));
         CHECKS.index("19 cell", () -> board.color(256));
-        stroke(board, "0,0-15,15", 0, 1, 3);
-        stroke(board, "0,0-3,3", 1, 0, 4);
+        board.draw("0,0-15,15", 0, 1, 3);
+        board.draw("0,0-3,3", 1, 0, 4);
         same("19 higher layer", board.color(17), 3);
-        stroke(board, "15,15", 2, 1, 5);
+        board.draw("15,15", 2, 1, 5);
         same("19 later one", board.color(255), 5);
-        stroke(board, "14,14-15,15", 2, 2, 6);
+        board.draw("14,14-15,15", 2, 2, 6);
         same("19 top layer", board.color(238), 6);
-        fading(board, "1,0", 2, 7, 2);
+        board.drawFading("1,0", 2, 7, 2);
         board.pass(1);
         same("19 fading", board.color(1), 7);
         board.pass(1);
@@ -659,14 +625,14 @@ public final class PromisesTest {
     }
 
     private static void promise20colorLater() {
-        SharedBoard board = new SharedBoard();
+        Board board = new Board();
         CHECKS.index("20 cell", () -> board.colorLater(-1, 0));
         CHECKS.index("20 cell", () -> board.colorLater(256, -1));
         CHECKS.argument("20 ticks", () -> board.colorLater(0, -1));
         CHECKS.argument("20 ticks", () -> board.colorLater(0, 1001));
-        stroke(board, "0,0", 0, 0, 2);
-        fading(board, "0,0-1,0", 0, 3, 999);
-        type(board, "0,0").stroke(0, 2, 4, 1);
+        board.draw("0,0", 0, 0, 2);
+        board.drawFading("0,0-1,0", 0, 3, 999);
+        board.type("0,0").stroke(0, 2, 4, 1);
         same("20 now", board.colorLater(0, 0), 4);
         same("20 one", board.colorLater(0, 1), 3);
         same("20 998", board.colorLater(0, 998), 3);
@@ -685,39 +651,39 @@ public final class PromisesTest {
     }
 
     private static void promise21top() {
-        SharedBoard board = new SharedBoard();
+        Board board = new Board();
         CHECKS.index("21 cell", () -> board.top(-1));
         CHECKS.index("21 cell", () -> board.top(256));
-        stroke(board, "0,0-2,0", 0, 1, 3);
-        stroke(board, "0,0", 0, 0, 3);
-        stroke(board, "1,0", 0, 1, 3);
+        board.draw("0,0-2,0", 0, 1, 3);
+        board.draw("0,0", 0, 0, 3);
+        board.draw("1,0", 0, 1, 3);
         same("21 higher layer", board.top(0), 0);
         same("21 later one", board.top(1), 2);
         same("21 blank", board.top(3), -1);
-        erase(board, "0,0-1,0", 0, 1, 0);
+        board.erase("0,0-1,0", 0, 1, 0);
         same("21 erased", board.top(0), -1);
         same("21 not an erasure", board.top(2), 0);
         board.undo(0);
         same("21 undone", board.top(1), 2);
         board.undo(0);
         same("21 below", board.top(1), 0);
-        fading(board, "9,0", 1, 3, 1);
+        board.drawFading("9,0", 1, 3, 1);
         same("21 fading", board.top(9), 4);
         board.pass(1);
         same("21 vanished", board.top(9), -1);
     }
 
     private static void promise22count() {
-        SharedBoard board = new SharedBoard();
+        Board board = new Board();
         for (int wrong : new int[] {-1, 10, LOW, HIGH}) {
             CHECKS.argument("22 " + wrong, () -> board.count(wrong));
         }
         board.pass(12);
-        stroke(board, "0,0-3,0", 0, 0, 9);
-        stroke(board, "0,1-3,1", 1, 0, 1);
-        fading(board, "0,2-1,2", 1, 9, 5);
-        erase(board, "0,0", 2, 0, 0);
-        stroke(board, "5,5", 3, 0, 4);
+        board.draw("0,0-3,0", 0, 0, 9);
+        board.draw("0,1-3,1", 1, 0, 1);
+        board.drawFading("0,2-1,2", 1, 9, 5);
+        board.erase("0,0", 2, 0, 0);
+        board.draw("5,5", 3, 0, 4);
         board.undo(3);
         board.lease(0, 0, 17, 9);
         board.lease(0, 17, 34, 3);
@@ -734,46 +700,46 @@ public final class PromisesTest {
         board.pass(5);
         same("22 vanished", board.count(3), 7);
         same("22 leases end", board.count(6), 4);
-        SharedBoard colors = new SharedBoard();
+        Board colors = new Board();
         for (int color = 1; color <= 9; color++) {
-            stroke(colors, color + ",3", 0, 0, color);
+            colors.draw(color + ",3", 0, 0, color);
             same("22 colors", colors.count(4), color);
         }
     }
 
     private static void promise22hiddenAndRegions() {
-        SharedBoard board = new SharedBoard();
-        stroke(board, "0,0-3,0", 0, 0, 9);
-        fading(board, "0,0", 0, 9, 5);
-        stroke(board, "0,0-3,0", 0, 1, 8);
+        Board board = new Board();
+        board.draw("0,0-3,0", 0, 0, 9);
+        board.drawFading("0,0", 0, 9, 5);
+        board.draw("0,0-3,0", 0, 1, 8);
         same("22 both hidden", board.count(8), 2);
         board.pass(5);
         same("22 vanished ones do not count", board.count(8), 1);
-        erase(board, "0,0-3,0", 0, 0, 0);
+        board.erase("0,0-3,0", 0, 0, 0);
         same("22 nor those without cells", board.count(8), 0);
         board.undo(0);
         board.undo(0);
         same("22 shown again", board.count(8), 0);
         same("22 two regions", board.count(9), 2);
-        SharedBoard crossed = new SharedBoard();
-        stroke(crossed, "0,0-15,15", 0, 0, 3);
+        Board crossed = new Board();
+        crossed.draw("0,0-15,15", 0, 0, 3);
         same("22 diagonal cells are no neighbors", crossed.count(9), 18);
-        stroke(crossed, "15,0-0,15", 0, 0, 3);
+        crossed.draw("15,0-0,15", 0, 0, 3);
         // 28 lone cells, the square in the middle, and four blank triangles.
         same("22 a cross", crossed.count(9), 28 + 1 + 4);
-        SharedBoard wrapped = new SharedBoard();
-        stroke(wrapped, "15,0", 0, 0, 3);
-        stroke(wrapped, "0,1", 0, 0, 3);
+        Board wrapped = new Board();
+        wrapped.draw("15,0", 0, 0, 3);
+        wrapped.draw("0,1", 0, 0, 3);
         same("22 rows do not run on", wrapped.count(9), 3);
     }
 
     private static void promise23operation() {
-        SharedBoard board = new SharedBoard();
+        Board board = new Board();
         board.pass(6);
         board.lease(0, 0, 1, 9);
-        type(board, "0,0-5,0").stroke(3, 2, 7, 8);
+        board.type("0,0-5,0").stroke(3, 2, 7, 8);
         board.fill(1, 1, 4, 0);
-        erase(board, "3,0-4,0", 2, 2, 0);
+        board.erase("3,0-4,0", 2, 2, 0);
         for (int what : new int[] {-1, 11, LOW, HIGH}) {
             CHECKS.argument("23 what", () -> board.operation(0, what));
             CHECKS.index("23 order", () -> board.operation(3, what));
@@ -787,7 +753,7 @@ public final class PromisesTest {
                 same("23 " + number + " " + what, board.operation(number, what), due[number][what]);
             }
         }
-        erase(board, "9,9", 2, 0, 2);
+        board.erase("9,9", 2, 0, 2);
         same("23 kind", board.operation(3, 3), 2);
         board.pass(3);
         same("23 strength rounded down", board.operation(0, 10), 62);
@@ -806,48 +772,48 @@ public final class PromisesTest {
         same("23 vanished, on top", board.operation(0, 9), 0);
         same("23 vanished, left", board.operation(0, 7), 2);
         same("23 vanished, pieces", board.operation(0, 8), 2);
-        SharedBoard slow = new SharedBoard();
-        fading(slow, "0,0", 0, 1, 999);
+        Board slow = new Board();
+        slow.drawFading("0,0", 0, 1, 999);
         slow.pass(998);
         same("23 weak but there", slow.operation(0, 10), 0);
         same("23 weak but there", slow.color(0), 1);
     }
 
     private static void promise23pieces() {
-        SharedBoard board = new SharedBoard();
-        stroke(board, "0,0-15,15", 0, 0, 3);
+        Board board = new Board();
+        board.draw("0,0-15,15", 0, 0, 3);
         same("23 near cells", board.operation(0, 8), 1);
-        erase(board, "4,4", 0, 0, 0);
+        board.erase("4,4", 0, 0, 0);
         same("23 cut", board.operation(0, 8), 2);
-        erase(board, "0,0", 0, 0, 0);
+        board.erase("0,0", 0, 0, 0);
         same("23 at an end", board.operation(0, 8), 2);
-        stroke(board, "1,1-9,1", 0, 2, 5);
+        board.draw("1,1-9,1", 0, 2, 5);
         same("23 covered cells are left", board.operation(0, 8), 2);
-        erase(board, "5,5-15,15", 0, 0, 0);
+        board.erase("5,5-15,15", 0, 0, 0);
         same("23 one piece", board.operation(0, 8), 1);
-        erase(board, "2,2", 0, 0, 1);
+        board.erase("2,2", 0, 0, 1);
         same("23 none", board.operation(0, 8), 0);
-        SharedBoard edges = new SharedBoard();
-        stroke(edges, "14,2-15,2-15,3-0,3-0,4", 0, 0, 1);
-        erase(edges, "1,3-14,3", 0, 0, 0);
+        Board edges = new Board();
+        edges.draw("14,2-15,2-15,3-0,3-0,4", 0, 0, 1);
+        edges.erase("1,3-14,3", 0, 0, 0);
         same("23 rows do not run on", edges.operation(0, 8), 2);
-        SharedBoard other = new SharedBoard();
-        stroke(other, "4,0-0,4", 0, 0, 1);
+        Board other = new Board();
+        other.draw("4,0-0,4", 0, 0, 1);
         same("23 the other diagonal", other.operation(0, 8), 1);
         String[] bent = {"0,2-2,4-4,2", "4,1-2,4-0,2", "0,0-4,4-0,8", "8,0-4,4-8,8", "0,15-7,8-14,15"};
         for (String path : bent) {
-            SharedBoard board2 = new SharedBoard();
-            stroke(board2, path, 0, 0, 1);
+            Board board2 = new Board();
+            board2.draw(path, 0, 0, 1);
             same("23 one piece " + path, board2.operation(0, 8), 1);
         }
     }
 
     private static void promise24ifSwitched() {
-        SharedBoard board = new SharedBoard();
+        Board board = new Board();
         CHECKS.index("24 number", () -> board.ifSwitched(0));
-        stroke(board, "0,0-5,0", 0, 0, 3);
-        stroke(board, "0,0-1,0", 1, 0, 3);
-        erase(board, "5,0", 2, 0, 1);
+        board.draw("0,0-5,0", 0, 0, 3);
+        board.draw("0,0-1,0", 1, 0, 3);
+        board.erase("5,0", 2, 0, 1);
         CHECKS.index("24 number", () -> board.ifSwitched(3));
         CHECKS.index("24 number", () -> board.ifSwitched(-1));
         same("24 an erased stroke", board.ifSwitched(0), 0);
@@ -860,9 +826,9 @@ public final class PromisesTest {
         same("24 active again", board.ifSwitched(2), 4);
         board.undo(0);
         same("24 below the same color", board.ifSwitched(0), 4);
-        stroke(board, "9,9", 0, 0, 1);
+        board.draw("9,9", 0, 0, 1);
         same("24 also if it can't be redone", board.ifSwitched(0), 4);
-        fading(board, "7,7", 3, 2, 2);
+        board.drawFading("7,7", 3, 2, 2);
         same("24 fading", board.ifSwitched(4), 1);
         board.pass(2);
         same("24 vanished", board.ifSwitched(4), 0);
@@ -871,16 +837,16 @@ public final class PromisesTest {
     }
 
     private static void promise25user() {
-        SharedBoard board = new SharedBoard();
+        Board board = new Board();
         CHECKS.index("25 user", () -> board.user(5, 0));
         CHECKS.index("25 user", () -> board.user(-1, 5));
         CHECKS.argument("25 what", () -> board.user(0, -1));
         CHECKS.argument("25 what", () -> board.user(4, 5));
-        stroke(board, "0,0-5,0", 0, 0, 3);
-        stroke(board, "0,0-1,0", 1, 0, 3);
-        stroke(board, "9,0", 0, 0, 3);
-        stroke(board, "8,0", 0, 0, 3);
-        erase(board, "5,0", 2, 0, 0);
+        board.draw("0,0-5,0", 0, 0, 3);
+        board.draw("0,0-1,0", 1, 0, 3);
+        board.draw("9,0", 0, 0, 3);
+        board.draw("8,0", 0, 0, 3);
+        board.erase("5,0", 2, 0, 0);
         board.undo(0);
         board.lease(4, 255, 255, 4);
         board.lease(4, 255, 255, 5);
@@ -898,93 +864,62 @@ public final class PromisesTest {
         same("25 both can be redone", board.user(0, 2), 2);
         board.redo(0);
         same("25 one can be redone", board.user(0, 2), 1);
-        stroke(board, "8,8", 0, 0, 3);
+        board.draw("8,8", 0, 0, 3);
         same("25 none can be redone", board.user(0, 2), 0);
         board.pass(4);
         same("25 leases end", board.user(4, 4), 1);
     }
 
     private static void promise26meanStrength() {
-        SharedBoard board = new SharedBoard();
+        Board board = new Board();
         CHECKS.same("26 blank", board.meanStrength(), 0.0);
-        stroke(board, "0,0", 0, 0, 1);
+        board.draw("0,0", 0, 0, 1);
         CHECKS.same("26 full", board.meanStrength(), 100.0);
-        fading(board, "1,0-2,0", 0, 1, 3);
+        board.drawFading("1,0-2,0", 0, 1, 3);
         board.pass(1);
         CHECKS.same("26 mean", board.meanStrength(), (100.0 + 66.0 + 66.0) / 3.0);
         board.pass(1);
         CHECKS.same("26 later", board.meanStrength(), 166.0 / 3.0);
         board.pass(1);
         CHECKS.same("26 vanished", board.meanStrength(), 100.0);
-        fading(board, "0,0", 0, 1, 4);
+        board.drawFading("0,0", 0, 1, 4);
         board.pass(1);
         CHECKS.same("26 only those on top", board.meanStrength(), 75.0);
     }
 
-    private static long mix(long hash, long value) {
-        return 31 * hash + value;
-    }
-
-    /** The digest as the document tells it, by the other calls. */
-    private static long dueDigest(SharedBoard board, String text, int... marks) {
-        long hash = 1933;
-        for (int what = 0; what < 10; what++) {
-            hash = mix(hash, board.count(what));
-        }
-        for (int cell = 0; cell < 256; cell++) {
-            hash = mix(hash, board.color(cell));
-        }
-        for (int number = 0; number < board.count(1); number++) {
-            for (int what = 0; what <= 10; what++) {
-                hash = mix(hash, board.operation(number, what));
-            }
-        }
-        for (int user = 0; user < 5; user++) {
-            for (int what = 0; what < 5; what++) {
-                hash = mix(hash, board.user(user, what));
-            }
-        }
-        for (int mark : marks) {
-            hash = mix(hash, board.difference(mark));
-        }
-        hash = mix(hash, text.length());
-        for (int i = 0; i < text.length(); i++) {
-            hash = mix(hash, text.charAt(i));
-        }
-        return hash;
-    }
-
-    private static void promise27digest() {
-        SharedBoard board = new SharedBoard();
-        same("27 new", board.digest(), dueDigest(board, ""));
-        long empty = board.digest();
+    private static Board ofAllKinds() {
+        Board board = new Board();
         board.setMark(3);
-        stroke(board, "0,0-5,5", 0, 0, 3);
+        board.draw("0,0-5,5", 0, 0, 3);
         board.setMark(0);
-        fading(board, "5,0-0,5", 1, 4, 9);
+        board.drawFading("5,0-0,5", 1, 4, 9);
         board.pass(2);
         board.setMark(1);
-        erase(board, "3,3", 0, 0, 0);
+        board.erase("3,3", 0, 0, 0);
         board.fill(2, 1, 6, 15);
         board.lease(3, 0, 40, 7);
         board.undo(1);
-        type(board, "1,~!");
-        same("27 all kinds", board.digest(), dueDigest(board, "1,~!", 0, 1, 3));
-        same("27 twice", board.digest(), dueDigest(board, "1,~!", 0, 1, 3));
+        return board.type("1,~!");
+    }
+
+    private static void promise27digest() {
+        same("27 new", new Board().digest(), DueDigest.of(Board::new, ""));
+        Board board = ofAllKinds();
+        same("27 all kinds", board.digest(), DueDigest.of(PromisesTest::ofAllKinds, "1,~!"));
+        same("27 twice", board.digest(), DueDigest.of(PromisesTest::ofAllKinds, "1,~!"));
         board.clear();
-        same("27 with text only", board.digest(), dueDigest(board, "1,~!"));
+        same("27 with text only", board.digest(), DueDigest.of(Board::new, "1,~!"));
         board.clearBuffer();
-        same("27 as new", board.digest(), empty);
-        SharedBoard full = full();
-        same("27 full", full.digest(), dueDigest(full, ""));
+        same("27 as new", board.digest(), new Board().digest());
+        same("27 full", Board.full().digest(), DueDigest.of(Board::full, ""));
     }
 
     private static void refusedCallsChangeNothing() {
-        SharedBoard board = new SharedBoard();
-        stroke(board, "0,0-5,5", 0, 0, 3);
+        Board board = new Board();
+        board.draw("0,0-5,5", 0, 0, 3);
         board.undo(0);
         board.lease(1, 9, 9, 5);
-        type(board, "1,");
+        board.type("1,");
         long before = board.digest();
         CHECKS.state("none stroke", () -> board.stroke(0, 0, 1, 0));
         CHECKS.state("none erase", () -> board.erase(0, 0, 1));
@@ -1003,7 +938,7 @@ public final class PromisesTest {
     }
 
     private static void fullLogIsUsable() {
-        SharedBoard board = full();
+        Board board = Board.full();
         same("full count", board.count(1), 60);
         same("full mark", board.setMark(0), 60);
         same("full undo", board.undo(4), 59);
@@ -1035,21 +970,21 @@ public final class PromisesTest {
 
     /** What an operation, a lease or a mark of earlier had must not come back in a later one. */
     private static void rowsAreUsedAgain() {
-        SharedBoard board = new SharedBoard();
-        fading(board, "0,0-9,9", 0, 3, 5);
-        erase(board, "3,3", 0, 2, 1);
+        Board board = new Board();
+        board.drawFading("0,0-9,9", 0, 3, 5);
+        board.erase("3,3", 0, 2, 1);
         board.undo(0);
         board.undo(0);
         board.lease(1, 0, 255, 999);
         board.setMark(0);
         board.clear();
-        same("again one cell", stroke(board, "4,4", 0, 2, 6), 1);
+        same("again one cell", board.draw("4,4", 0, 2, 6), 1);
         showsOnly("again", board, 6, 68);
         CHECKS.state("again no redo", () -> board.redo(0));
         same("again a fill", board.fill(1, 0, 2, 0), 255);
         same("again hidden", board.count(8), 0);
         board.clear();
-        fading(board, "0,0", 0, 3, 5);
+        board.drawFading("0,0", 0, 3, 5);
         board.clear();
         same("again a fill without fading", board.fill(0, 0, 2, 0), 256);
         board.pass(900);
@@ -1057,10 +992,10 @@ public final class PromisesTest {
         same("again strength", board.operation(0, 10), 100);
         same("again a small lease", board.lease(0, 7, 7, 3), 1);
         same("again its cells", board.count(6), 1);
-        same("again a small fill", stroke(board, "1,1", 2, 2, 9), 1);
+        same("again a small fill", board.draw("1,1", 2, 2, 9), 1);
         board.setMark(2);
         board.undo(2);
-        stroke(board, "2,2", 2, 2, 9);
+        board.draw("2,2", 2, 2, 9);
         board.rewind(2);
         same("again a region", board.fill(3, 1, 8, 17), 1);
         same("again its number", board.operation(2, 6), 1);
