@@ -66,9 +66,10 @@ enum Situation {
             board.fill(i % 4, i % 3, 1 + i % 9, 4 * i);
         }
         board.setMark(1);
-        board.undo(3);
-        board.undo(3);
-        board.undo(1);
+        // Users 0, 1, 3 and 4 have something to redo, which a refused stroke must not forget.
+        for (int user : new int[] {3, 3, 1, 0, 4}) {
+            board.undo(user);
+        }
     }
 
     private static void goToLastTick(Board board) {
