@@ -2,6 +2,7 @@ import java.io.IOException;
 import java.nio.file.Files;
 import java.nio.file.Path;
 import java.util.LinkedHashMap;
+import java.util.List;
 import java.util.Map;
 
 /** The sections of ../shared/DOC.md, and what of them no test has cited yet. */
@@ -11,6 +12,7 @@ final class Document {
     private static final String NOT_CITED = "Examples: .*(?=The constants:)|Ahead of the calls [^:]*: ---- [a-z ]*\\.";
     private static final String SIGNATURE = "^\\s*`[^`]*`:";
 
+    private String text = "";
     private final Map<String, String> sections = new LinkedHashMap<>();
     private final Map<String, String> rests = new LinkedHashMap<>();
 
@@ -21,7 +23,8 @@ final class Document {
             System.out.println("no " + FILE + ": the cited sentences are not looked up");
             return document;
         }
-        for (String part : Files.readString(FILE).split("(?m)^## ")) {
+        document.text = Files.readString(FILE);
+        for (String part : document.text.split("(?m)^## ")) {
             String heading = part.lines().findFirst().orElse("").split(":")[0];
             String text = part.substring(part.indexOf('\n') + 1).replaceAll("(?m)^- ", "").replaceAll("\\s+", " ");
             document.sections.put(heading, text);
@@ -30,6 +33,17 @@ final class Document {
             }
         }
         return document;
+    }
+
+    /** The paragraphs "1. .." of the examples, each with its calls. */
+    List<String> examples() {
+        return text.lines().filter(line -> line.matches("[0-9]+\\. .*")).toList();
+    }
+
+    /** The lines of the class in the section of the public face, without the braces. */
+    List<String> face() {
+        return text.lines().dropWhile(line -> !line.startsWith("```java")).skip(1)
+            .takeWhile(line -> !line.startsWith("```")).map(String::trim).filter(line -> !line.equals("}")).toList();
     }
 
     boolean isRead() {

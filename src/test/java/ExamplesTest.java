@@ -1,13 +1,61 @@
-/** The four examples of the document, call by call. */
+import java.io.IOException;
+import java.lang.reflect.InvocationTargetException;
+import java.lang.reflect.Method;
+import java.util.Arrays;
+import java.util.List;
+
+/** The four examples of the document, call by call: as they were copied here, and as they stand in DOC.md. */
 public final class ExamplesTest {
     private static final Checks CHECKS = new Checks("ExamplesTest");
 
-    public static void main(String[] args) {
+    public static void main(String[] args) throws IOException {
         strokeAndRemovingEraser();
         leaseFillMarkUndoRedo();
         fadingStroke();
         refusals();
+        int copied = CHECKS.made();
+        Document document = Document.read();
+        if (document.isRead()) {
+            List<String> examples = document.examples();
+            CHECKS.same("examples in the document", examples.size(), 4);
+            examples.forEach(ExamplesTest::asItStands);
+            CHECKS.same("calls in the document", CHECKS.made() - copied - 1, copied);
+        }
         CHECKS.end();
+    }
+
+    /** An example is "1. What it is about: call(1, 2) = 3; call() = throws SomeException." */
+    private static void asItStands(String example) {
+        SharedBoard board = new SharedBoard();
+        String calls = example.substring(example.indexOf(": ") + 2, example.length() - 1);
+        for (String row : calls.split("; ")) {
+            String[] sides = row.split(" = ");
+            String got = sides.length == 2 ? answer(board, sides[0]) : "no call";
+            String due = sides[sides.length - 1];
+            CHECKS.isTrue(example.charAt(0) + " " + row + " answered " + got, got.equals(due));
+        }
+    }
+
+    private static String answer(SharedBoard board, String call) {
+        String name = call.substring(0, Math.max(0, call.indexOf('(')));
+        int[] numbers = Arrays.stream(call.replaceAll(".*\\(|\\).*", "").split(", "))
+            .filter(number -> !number.isEmpty()).mapToInt(Integer::parseInt).toArray();
+        for (Method method : SharedBoard.class.getMethods()) {
+            if (method.getName().equals(name) && method.getParameterCount() == numbers.length) {
+                return answer(board, method, Arrays.stream(numbers).boxed().toArray());
+            }
+        }
+        return "no such method";
+    }
+
+    private static String answer(SharedBoard board, Method method, Object[] arguments) {
+        try {
+            return method.invoke(board, arguments).toString();
+        } catch (InvocationTargetException e) {
+            return "throws " + e.getCause().getClass().getSimpleName();
+        } catch (IllegalAccessException e) {
+            return "not public";
+        }
     }
 
     private static void type(SharedBoard board, int... codes) {

@@ -1,8 +1,12 @@
+import java.io.IOException;
 import java.lang.reflect.Constructor;
 import java.lang.reflect.Field;
 import java.lang.reflect.Method;
 import java.lang.reflect.Modifier;
+import java.nio.file.Files;
+import java.nio.file.Path;
 import java.util.Arrays;
+import java.util.List;
 import java.util.Set;
 import java.util.TreeSet;
 
@@ -41,7 +45,7 @@ public final class FaceTest {
         "long digest 0",
     };
 
-    public static void main(String[] args) {
+    public static void main(String[] args) throws IOException {
         Class<?> face = SharedBoard.class;
         CHECKS.isTrue("public and final", Modifier.isPublic(face.getModifiers()) && Modifier.isFinal(face.getModifiers()));
         Set<String> due = new TreeSet<>(Arrays.asList(FACE));
@@ -59,7 +63,24 @@ public final class FaceTest {
                 Modifier.isStatic(inside.getModifiers()) && !Modifier.isPublic(inside.getModifiers()));
         }
         CHECKS.isTrue("at most twelve classes", face.getDeclaredClasses().length < 12);
+        declaredAsInTheDocument();
         CHECKS.end();
+    }
+
+    /** The program has each line of the document's face, to the names of the parameters, and nothing else public. */
+    private static void declaredAsInTheDocument() throws IOException {
+        Document document = Document.read();
+        if (!document.isRead()) {
+            return;
+        }
+        String source = Files.readString(Path.of("src/main/java/SharedBoard.java")).replaceAll("\\s+", " ");
+        List<String> lines = document.face();
+        CHECKS.same("lines of the face", lines.size(), FACE.length + 3);
+        for (String line : lines) {
+            String declared = line.contains("=") || line.endsWith("{") ? line : line.replaceFirst(";$", " {");
+            CHECKS.isTrue("not in the program: " + declared, source.contains(" " + declared + " "));
+        }
+        CHECKS.same("public in the program", source.split("\\bpublic ", -1).length - 1, lines.size());
     }
 
     private static String told(Method method) {

@@ -22,7 +22,34 @@ public final class LanguageTest {
         }
         throwsByRule(code);
         methodsAreShort(code);
+        libraryByRule(code);
+        objectsOfConstructorsAlone(code);
         CHECKS.end();
+    }
+
+    private static void libraryByRule(String code) {
+        Matcher named = Pattern.compile("\\b([A-Z][a-z]\\w*)\\.(\\w+)").matcher(code);
+        while (named.find()) {
+            CHECKS.isTrue("library: " + named.group(), named.group().matches(
+                "Math\\.(abs|max|min)|Integer\\.bitCount|CellSet\\.(columnOf|rowOf)"));
+        }
+        CHECKS.isTrue("texts only of exceptions", !code.contains("String"));
+    }
+
+    /** All rows are made with the object; a later call makes nothing but the exception that it throws. */
+    private static void objectsOfConstructorsAlone(String code) {
+        Pattern header = Pattern.compile("( {4}| {8})(?!for|if|while|switch|do|else)[A-Za-z].*?(\\w+)\\(.*");
+        Pattern field = Pattern.compile(" +(private )?(static )?final \\S+ \\w+ = new [^;]*;");
+        String method = "";
+        for (String line : code.split("\n")) {
+            Matcher begun = header.matcher(line);
+            if (begun.matches() && !line.endsWith(";")) {
+                method = line.trim();
+            }
+            if (line.matches(".*\\bnew\\b.*") && !line.contains("throw new") && !field.matcher(line).matches()) {
+                CHECKS.isTrue("made outside a constructor: " + line, method.matches("(public |private )?[A-Z]\\w*\\(\\) \\{"));
+            }
+        }
     }
 
     private static void throwsByRule(String code) {

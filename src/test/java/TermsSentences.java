@@ -273,6 +273,35 @@ final class TermsSentences {
         line("5,2-0,0", 37, 36, 19, 18, 1, 0);
         line("0,0-1,5", 0, 16, 32, 49, 65, 81);
         line("0,0-15,1", 0, 1, 2, 3, 4, 5, 6, 7, 24, 25, 26, 27, 28, 29, 30, 31);
+        for (int width = -15; width <= 15; width++) {
+            for (int height = -15; height <= 15; height++) {
+                direction(width, height);
+            }
+        }
+    }
+
+    /** The line of this width and height, from a corner of the board. */
+    private void direction(int width, int height) {
+        int x = width < 0 ? 15 : 0;
+        int y = height < 0 ? 15 : 0;
+        int n = Math.max(Math.abs(width), Math.abs(height));
+        int[] cells = new int[n + 1];
+        for (int k = 0; k <= n; k++) {
+            cells[k] = 16 * (y + nearest(k * height, n)) + x + nearest(k * width, n);
+        }
+        line(x + "," + y + "-" + (x + width) + "," + (y + height), cells);
+    }
+
+    /** Of all integers the one that is nearest to v / n; of two such the one further from zero. */
+    private static int nearest(int v, int n) {
+        int best = 0;
+        for (int tried = -15; tried <= 15; tried++) {
+            int closer = Math.abs(best * n - v) - Math.abs(tried * n - v);
+            if (closer > 0 || closer == 0 && Math.abs(tried) > Math.abs(best) && n > 0) {
+                best = tried;
+            }
+        }
+        return best;
     }
 
     private void leases() {
