@@ -201,6 +201,13 @@ final class LeaseSentences {
         doc.same("the next one who leases it", board.holder(0), 2);
         board.release(2);
         doc.same("released", board.holder(0), -1);
+        Board six = new Board();
+        for (int i = 0; i < 6; i++) {
+            six.lease(i % 5, 17 * i, 17 * i, 9);
+        }
+        for (int i = 0; i < 6; i++) {
+            doc.same("lease " + i + " of six", six.holder(17 * i), i % 5);
+        }
         doc.promise(14, "Throws `IndexOutOfBoundsException` if the cell does not exist");
         doc.index("cell", b -> b.holder(-1), b -> b.holder(256), b -> b.holder(LOW), b -> b.holder(HIGH));
     }

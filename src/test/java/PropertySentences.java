@@ -175,6 +175,16 @@ final class PropertySentences {
         doc.same("around", board.operation(4, 9), 244);
         board.fill(4, 2, 2, 8);
         doc.same("wholly covered", board.operation(1, 9), 0);
+        Board full = new Board();
+        for (int number = 0; number < 60; number++) {
+            full.fill(number % 5, 0, 1, 0);
+            doc.same("number " + number, full.operation(number, 9), 256);
+            full.pass(1);
+            doc.same("number " + number + " later", full.operation(number, 9), 256);
+        }
+        full.undo(4);
+        doc.same("the last one, not active", full.operation(59, 9), 0);
+        doc.same("the one before", full.operation(58, 9), 256);
     }
 
     private void strength() {

@@ -396,6 +396,13 @@ final class QuestionSentences {
         Board all = new Board();
         all.fill(0, 0, 1, 0);
         doc.same("all cells", all.meanStrength(), 100.0);
+        for (int cell = 0; cell < 256; cell++) {
+            Board other = new Board();
+            other.fill(0, 0, 1, 0);
+            other.drawFading(cell % 16 + "," + cell / 16, 0, 1, 2);
+            other.pass(1);
+            doc.same("50 at cell " + cell, other.meanStrength(), 25550.0 / 256.0);
+        }
     }
 
     private void digest() {

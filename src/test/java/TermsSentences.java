@@ -337,6 +337,13 @@ final class TermsSentences {
             doc.same("for user " + user, board.draw("5,0", user, 0, 1), user == 2 ? 1 : 0);
             doc.same("beside it", board.draw("4,0", user, 0, 1), 1);
         }
+        Board six = new Board();
+        for (int i = 0; i < 6; i++) {
+            six.lease(0, 17 * i, 17 * i, 3);
+        }
+        for (int i = 0; i < 6; i++) {
+            doc.same("by lease " + i + " of six", six.draw(i + "," + i, 1, 0, 1), 0);
+        }
         doc.terms("When an operation is added, the cells that are closed for its user are left out of its set of cells; later "
             + "changes of leases do not change it any more.");
         Board board = new Board();
@@ -436,6 +443,11 @@ final class TermsSentences {
         doc.same("one cell of one of them", removed.erase("8,0-8,5", 2, 0, 1), 8);
         doc.same("the first", removed.operation(0, 7), 0);
         doc.same("the second", removed.operation(1, 7), 10);
+        for (int i = 0; i < 16; i++) {
+            Board everywhere = new Board();
+            everywhere.draw("0,0-15,15", 0, 0, 4);
+            doc.same("at " + i + "," + i, everywhere.erase(i + "," + i, 1, 0, 1), 16);
+        }
         Board hidden = new Board();
         hidden.draw("0,0-9,0", 0, 0, 4);
         hidden.draw("3,0-3,9", 1, 1, 5);
